@@ -1727,7 +1727,7 @@ public final class FragmentPath {
 
         private void hearDue() {
             int waiting = 0;
-            for (int i = 0; i < notes.count; i++) {
+            for (int i = 0; i < notes.count && i < Notes.MOST_NOTES; i++) {
                 int about = notes.aboutOf(i);
                 int size = notes.toldBy(i);
                 if (!notes.isDue(i, time)) {
