@@ -135,7 +135,13 @@ public final class FragmentPath {
             case Reader.EVERY:
                 return isEveryTold(first, second);
             case Reader.PASS:
-                return isPassed(first);
+                if (now.time + first > MOST_TIME) {
+                    return false;
+                }
+                for (int ticks = 0; ticks < first; ticks++) {
+                    now.tick();
+                }
+                return true;
             default:
                 return false;
         }
@@ -165,16 +171,6 @@ public final class FragmentPath {
             return false;
         }
         told.every = every;
-        return true;
-    }
-
-    private boolean isPassed(int ticks) {
-        if (now.time + ticks > MOST_TIME) {
-            return false;
-        }
-        for (int i = 0; i < ticks; i++) {
-            now.tick();
-        }
         return true;
     }
 
@@ -628,7 +624,9 @@ public final class FragmentPath {
         }
         remember();
         int before = now.handedCount();
-        isPassed(ticks);
+        for (int i = 0; i < ticks; i++) {
+            now.tick();
+        }
         return now.handedCount() - before;
     }
 
@@ -1458,7 +1456,13 @@ public final class FragmentPath {
             if (bytes > link.size && isFirm(whose)) {
                 link.dropped++;
                 accounts.dropped++;
-                return noteGoes(on, link.size, whose == NONE ? -bytes : whose);
+                int ticks = delaysAhead(on);
+                int about = whose == NONE ? -bytes : whose;
+                if (ticks == 0) {
+                    return noteComes(link.size, about);
+                }
+                notes.put(time + ticks, link.size, about);
+                return false;
             }
             int cuts = cutsOf(bytes - HEAD, link.size);
             int full = fullOf(link.size);
@@ -1501,15 +1505,6 @@ public final class FragmentPath {
             Datagram own = datagramAt(valueIn(packets.whose, slot));
             return own != null
                     && valueIn(packets.offset, slot) + valueIn(packets.bytes, slot) - HEAD < own.length;
-        }
-
-        private boolean noteGoes(int node, int size, int about) {
-            int ticks = delaysAhead(node);
-            if (ticks == 0) {
-                return noteComes(size, about);
-            }
-            notes.put(time + ticks, size, about);
-            return false;
         }
 
         // the sender
