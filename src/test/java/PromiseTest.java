@@ -1,13 +1,5 @@
 /** Each promise of the document, with ordinary inputs, the edges that it names and wrong inputs. */
-public final class PromiseTest {
-    private static final String RANGE = "throws.IllegalArgumentException";
-    private static final String INDEX = "throws.IndexOutOfBoundsException";
-    private static final String STATE = "throws.IllegalStateException";
-
-    private static int promise = 0;
-    private static int wrong = 0;
-    private static FragmentPath x = new FragmentPath();
-
+public final class PromiseTest extends Bench {
     private PromiseTest() { }
 
     public static void main(String[] args) {
@@ -19,88 +11,11 @@ public final class PromiseTest {
         output();
         taking();
         sections();
-        if (wrong > 0) {
-            System.exit(1);
-        }
-        System.out.println("all promises hold");
+        end("all promises hold");
     }
 
     private static void begin(int number) {
-        promise = number;
-        x = new FragmentPath();
-    }
-
-    private static void fail(String what, Object got, Object want) {
-        wrong++;
-        System.out.println("promise " + promise + ": " + what + " answered " + got + ", due is " + want);
-    }
-
-    /** Calls a method and looks at its answer. */
-    private static void due(Object want, String name, Object... arguments) {
-        String got = Faces.call(x, name, arguments);
-        if (!got.equals(String.valueOf(want))) {
-            fail(name + java.util.Arrays.toString(arguments), got, want);
-        }
-    }
-
-    /** Looks at the answers of a getter for 0, 1, 2 ... */
-    private static void row(String name, Object... wanted) {
-        for (int what = 0; what < wanted.length; what++) {
-            due(wanted[what], name, what);
-        }
-    }
-
-    private static void rowOf(String name, int index, Object... wanted) {
-        for (int what = 0; what < wanted.length; what++) {
-            due(wanted[what], name, index, what);
-        }
-    }
-
-    private static void type(String text) {
-        for (int i = 0; i < text.length(); i += 20) {
-            Faces.call(x, "append", Faces.numbers(text, i));
-        }
-        x.truncate(Math.min(text.length(), 500));
-    }
-
-    private static void read(String text) {
-        type(text);
-        if (Faces.call(x, "readText").startsWith("throws")) {
-            fail("readText of " + text, "an error", "none");
-        }
-    }
-
-    private static void badText(int kind, int position, String text) {
-        type(text);
-        due(RANGE, "readText");
-        due(kind, "errorCode");
-        due(position, "errorPosition");
-        due(0, "truncate", 0);
-        due(RANGE, "truncate", 1);
-    }
-
-    private static void run(int done, String text) {
-        type(text);
-        due(done, "runOrders");
-        due(0, "errorCode");
-        due(-1, "errorPosition");
-    }
-
-    private static void badOrders(int kind, int position, String text) {
-        type(text);
-        due(RANGE, "runOrders");
-        due(kind, "errorCode");
-        due(position, "errorPosition");
-        due(RANGE, "truncate", 1);
-    }
-
-    private static void written(String text, String name, Object... arguments) {
-        due(text.length(), name, arguments);
-        for (int i = 0; i < text.length(); i++) {
-            due((int) text.charAt(i), "outputByte", i);
-        }
-        due(-1, "outputByte", text.length());
-        due(-1, "outputByte", -1);
+        begin("promise " + number);
     }
 
     // ---- promises 1 to 7 ----
@@ -114,7 +29,9 @@ public final class PromiseTest {
         due(-1, "outputByte", 0);
         due(STATE, "restore");
         due(-1, "undo");
-        due(-1, FragmentPath.NONE);
+        if (FragmentPath.NONE != -1) {
+            fail("NONE", FragmentPath.NONE, -1);
+        }
 
         begin(2);
         for (int i = 1; i <= 25; i++) {
@@ -143,9 +60,9 @@ public final class PromiseTest {
         due(RANGE, "truncate", 8);
 
         begin(4);
-        x.save();
-        x.writePath();
-        x.setLife(9);
+        go("save");
+        go("writePath");
+        go("setLife", 9);
         type("link 1500 2 3;policy 2;link 28 50 99;send 1 255;life 200 ; send 1000 0 firm");
         due(2, "readText");
         row("size", 2, 2, 0, 200, 2, 1500, 27, -1, 2, 0, 0, 0, 2, 0, 0, 0);
@@ -184,7 +101,7 @@ public final class PromiseTest {
         badText(4, 72, "link 28 1 0;".repeat(6) + "link");
         read("link 28 1 0");
         due(0, "errorCode");
-        x.truncate(0);
+        go("truncate", 0);
 
         begin(7);
         due(-1, "errorPosition");
@@ -195,7 +112,6 @@ public final class PromiseTest {
     }
 
     private static void errors() {
-        promise = 4;
         badText(1, 0, "");
         badText(1, 2, "  ");
         badText(1, 0, "life 60;link 28 1 0");
@@ -243,7 +159,6 @@ public final class PromiseTest {
     }
 
     private static void orders() {
-        promise = 5;
         run(0, "   ");
         badOrders(1, 6, "pass 1");
         badOrders(1, 0, ";");
@@ -298,15 +213,15 @@ public final class PromiseTest {
         due(RANGE, "size", 16);
         read("link 100 2 0;link 60 3 0;send 50 1;send 60 2 firm;policy 1;life 20");
         row("size", 2, 2, 0, 20, 1, 100, 27, -1, 2, 0, 0, 0, 2, 0, 0, 0);
-        x.probe(50);
-        x.pass(2);
+        go("probe", 50);
+        go("pass", 2);
         row("size", 2, 2, 2, 20, 1, 100, 27, -1, 3, 1, 0, 0, 2, 0, 0, 2);
-        x.pass(2);
+        go("pass", 2);
         row("size", 2, 2, 4, 20, 1, 60, 27, -1, 5, 0, 0, 0, 2, 0, 0, 3);
-        x.pass(1);
+        go("pass", 1);
         row("size", 2, 2, 5, 20, 1, 60, 27, -1, 2, 0, 1, 0, 1, 1, 0, 4);
-        x.pass(4);
-        x.pass(1);
+        go("pass", 4);
+        go("pass", 1);
         row("size", 2, 2, 10, 20, 1, 60, 50, -1, 0, 0, 0, 0, 0, 2, 0, 6);
 
         begin(9);
@@ -316,32 +231,32 @@ public final class PromiseTest {
         due(RANGE, "link", 0, 9);
         read("link 1500 1 0;link 60 4 3;send 100 0;send 100 0 firm");
         rowOf("link", 0, 1500, 1, 0, 2, 2, 0, 0, 0, 240);
-        x.pass(1);
+        go("pass", 1);
         // 100 bytes by 60: 40, 40, 20; the third packet is lost; the firm one is dropped
         rowOf("link", 1, 60, 4, 3, 3, 2, 1, 1, 1, 160);
         rowOf("link", 0, 1500, 1, 0, 2, 0, 0, 0, 0, 240);
 
         begin(10);
         due(INDEX, "datagram", 0, 0);
-        x.pass(7);
-        x.send(700, 3, false);
-        x.send(9, 255, true);
+        go("pass", 7);
+        go("send", 700, 3, false);
+        go("send", 9, 255, true);
         due(INDEX, "datagram", 2, 0);
         due(INDEX, "datagram", -1, 77);
         due(RANGE, "datagram", 0, -1);
         due(RANGE, "datagram", 0, 9);
         rowOf("datagram", 0, 700, 3, 0, 1, 7, 0, -1, 0, 2);
         rowOf("datagram", 1, 9, 255, 1, 1, 7, 0, -1, 0, 1);
-        x.again(1);
+        go("again", 1);
         rowOf("datagram", 1, 9, 255, 1, 2, 7, 0, -1, 0, 2);
-        x.forge(0, 992, 10, 1, false);
-        x.pass(1);
+        go("forge", 0, 992, 10, 1, false);
+        go("pass", 1);
         rowOf("datagram", 0, 700, 3, 0, 1, 7, 3, 8, 3, 0);
         rowOf("datagram", 1, 9, 255, 1, 2, 7, 1, 8, 0, 0);
 
         begin(11);
         due(INDEX, "ownByte", 0, 0);
-        x.send(1000, 250, false);
+        go("send", 1000, 250, false);
         due(INDEX, "ownByte", 1, 0);
         due(INDEX, "ownByte", -1, 0);
         due(250, "ownByte", 0, 0);
@@ -359,10 +274,10 @@ public final class PromiseTest {
         due(RANGE, "packet", 0, -1);
         rowOf("packet", 0, 0, 5, 0, 0, 100, 1, 0);
         rowOf("packet", 1, 0, 5, 0, 80, 40, 0, 0);
-        x.pass(4);
-        x.probe(50);
-        x.send(9, 9, true);
-        x.pass(1);
+        go("pass", 4);
+        go("probe", 50);
+        go("send", 9, 9, true);
+        go("pass", 1);
         // on the link 1: 40, 40 and 20 bytes, at 6; on the link 0: those that are at its end at 9
         rowOf("packet", 0, 1, 6, 0, 0, 60, 1, 0);
         rowOf("packet", 1, 1, 6, 0, 40, 60, 1, 0);
@@ -370,9 +285,9 @@ public final class PromiseTest {
         rowOf("packet", 3, 0, 9, -1, -1, 50, 0, 1);
         rowOf("packet", 4, 0, 9, 1, 0, 29, 0, 1);
         read("link 100 6 0;link 60 1 0;link 60 5 0;send 9 0");
-        x.pass(6);
-        x.send(9, 1, false);
-        x.pass(1);
+        go("pass", 6);
+        go("send", 9, 1, false);
+        go("pass", 1);
         // times 12 on the links 0 and 2: the lower link is ahead
         rowOf("packet", 0, 0, 12, 1);
         rowOf("packet", 1, 2, 12, 0);
@@ -380,56 +295,56 @@ public final class PromiseTest {
         begin(13);
         due(INDEX, "heap", 0, 0);
         due(INDEX, "heap", -1, 99);
-        x.send(900, 0, false);
+        go("send", 900, 0, false);
         rowOf("heap", 0, -1, -1, -1, -1, -1, -1, -1);
         due(RANGE, "heap", 0, 7);
         due(RANGE, "heap", 0, -1);
-        x.setLife(200);
-        x.again(0);
-        x.undo();
-        x.pass(500);
-        x.send(900, 0, false);
-        x.forge(1, 16, 8, 1, true);
+        go("setLife", 200);
+        go("again", 0);
+        go("undo");
+        go("pass", 500);
+        go("send", 900, 0, false);
+        go("forge", 1, 16, 8, 1, true);
         rowOf("heap", 1, 500, -1, 8, 2, 0, 1, 24);
-        x.forge(1, 20 * 8, 8, 1, false);
+        go("forge", 1, 20 * 8, 8, 1, false);
         rowOf("heap", 1, 500, 168, 16, 2, 0, 2, 168);
-        x.forge(1, 16, 9, 1, true);
+        go("forge", 1, 16, 9, 1, true);
         rowOf("heap", 1, 500, 168, 17, 2, 8, 3, 168);
 
         begin(14);
         due(INDEX, "hole", 0, 0, 0);
-        x.send(900, 0, false);
+        go("send", 900, 0, false);
         due(-1, "hole", 0, 0, 0);
         due(RANGE, "hole", 0, 0, 2);
         due(RANGE, "hole", 0, 0, -1);
-        x.forge(0, 16, 8, 1, true);
+        go("forge", 0, 16, 8, 1, true);
         due(0, "hole", 0, 0, 0);
         due(16, "hole", 0, 0, 1);
         due(24, "hole", 0, 1, 0);
         due(-1, "hole", 0, 1, 1);
         due(-1, "hole", 0, 2, 0);
         due(-1, "hole", 0, -1, 1);
-        x.forge(0, 0, 8, 1, true);
+        go("forge", 0, 0, 8, 1, true);
         due(8, "hole", 0, 0, 0);
         due(16, "hole", 0, 0, 1);
-        x.forge(0, 40, 2, 1, false);
+        go("forge", 0, 40, 2, 1, false);
         due(24, "hole", 0, 1, 0);
         due(40, "hole", 0, 1, 1);
         due(-1, "hole", 0, 2, 0);
 
         begin(15);
         due(INDEX, "heapByte", 0, 0);
-        x.send(900, 7, false);
+        go("send", 900, 7, false);
         due(-1, "heapByte", 0, 0);
-        x.forge(0, 8, 8, 255, true);
+        go("forge", 0, 8, 8, 255, true);
         due(-1, "heapByte", 0, 7);
         due(255, "heapByte", 0, 8);
         due(255, "heapByte", 0, 15);
         due(-1, "heapByte", 0, 16);
         due(-1, "heapByte", 0, -1);
         due(-1, "heapByte", 0, 100000);
-        x.setEvery(0, 4);
-        x.pass(1);
+        go("setEvery", 0, 4);
+        go("pass", 1);
         due(0, "size", 11);
         accounts();
     }
@@ -441,26 +356,26 @@ public final class PromiseTest {
         read("link 100 1 3;link 60 1 0;send 100 0;send 60 5 firm");
         // pieces of 80 and 20 bytes; the firm one of 60 bytes is the third packet and is lost
         row("account", 3, 1, 0, 1, 0, 0, 0, 0, 0, 0, 0, 0);
-        x.pass(1);
+        go("pass", 1);
         row("account", 6, 1, 0, 2, 0, 0, 0, 0, 0, 0, 0, 0);
-        x.again(1);
-        x.probe(70);
-        x.pass(1);
+        go("again", 1);
+        go("probe", 70);
+        go("pass", 1);
         // both of them dropped ahead of the link 1; datagram 0 handed over
         row("account", 8, 1, 0, 2, 2, 3, 0, 0, 0, 0, 0, 100);
-        x.pass(1);
+        go("pass", 1);
         row("account", 10, 2, 0, 2, 2, 3, 0, 0, 2, 0, 0, 100);
-        x.forge(0, 0, 1, 1, true);
-        x.forge(1, 0, 50, 1, true);
+        go("forge", 0, 0, 1, 1, true);
+        go("forge", 1, 0, 50, 1, true);
         row("account", 10, 2, 0, 2, 2, 5, 1, 0, 2, 0, 2, 100);
-        x.pass(2);
+        go("pass", 2);
         // the piece of 40 bytes was lost as the sixth packet; that of 20 covers 10 forged bytes
         row("account", 11, 2, 0, 2, 2, 6, 1, 10, 2, 0, 2, 160);
         due(7, "undo");
         row("account", 10, 2, 0, 2, 2, 5, 1, 0, 2, 0, 2, 100);
-        x.probe(60);
-        x.probe(60);
-        x.pass(4);
+        go("probe", 60);
+        go("probe", 60);
+        go("pass", 4);
         due(1, "account", 9);
 
         begin(17);
@@ -468,16 +383,10 @@ public final class PromiseTest {
         read("link 60 3 2;link 40 1 3;send 1000 1;send 1000 2 firm");
         for (int i = 0; i < 8; i++) {
             due(0, "gap");
-            x.pass(1);
+            go("pass", 1);
         }
-        x.undo();
+        go("undo");
         due(0, "gap");
-    }
-
-    private static void due(Object want, int got) {
-        if (!String.valueOf(got).equals(String.valueOf(want))) {
-            fail("a number", got, want);
-        }
     }
 
     // ---- promises 18 to 24 ----
@@ -487,7 +396,7 @@ public final class PromiseTest {
         due(576, "narrowest");
         read("link 1500 1 0;link 300 1 0;link 301 1 0");
         due(300, "narrowest");
-        x.setSize(1, 302);
+        go("setSize", 1, 302);
         due(301, "narrowest");
 
         begin(19);
@@ -536,37 +445,37 @@ public final class PromiseTest {
 
         begin(23);
         due(1500, "nextProbe");
-        x.probe(1000);
+        go("probe", 1000);
         due(1000, "size", 7);
         due((27 + 1000) / 2, "nextProbe");
-        x.probe(28);
-        x.pass(2);
+        go("probe", 28);
+        go("pass", 2);
         due((28 + 1000) / 2, "nextProbe");
-        x.probe(576);
-        x.pass(2);
-        x.probe(578);
+        go("probe", 576);
+        go("pass", 2);
+        go("probe", 578);
         due(577, "nextProbe");
-        x.probe(577);
+        go("probe", 577);
         due(-1, "nextProbe");
         read("link 1500 1 0");
-        x.probe(1500);
-        x.pass(2);
+        go("probe", 1500);
+        go("pass", 2);
         due(-1, "nextProbe");
 
         begin(24);
         due(false, "isFound");
-        x.probe(576);
-        x.pass(2);
+        go("probe", 576);
+        go("pass", 2);
         due(false, "isFound");
-        x.probe(578);
+        go("probe", 578);
         due(false, "isFound");
-        x.probe(577);
+        go("probe", 577);
         due(true, "isFound");
         read("link 1500 1 0");
-        x.probe(1500);
-        x.pass(1);
+        go("probe", 1500);
+        go("pass", 1);
         due(false, "isFound");
-        x.pass(1);
+        go("pass", 1);
         due(true, "isFound");
     }
 
@@ -575,31 +484,31 @@ public final class PromiseTest {
     private static void foretelling() {
         begin(25);
         due(INDEX, "missing", 0);
-        x.send(900, 0, false);
+        go("send", 900, 0, false);
         due(-1, "missing", 0);
-        x.forge(0, 8, 8, 0, true);
+        go("forge", 0, 8, 8, 0, true);
         due(-1, "missing", 0);
-        x.forge(0, 40, 8, 0, false);
+        go("forge", 0, 40, 8, 0, false);
         due(32, "missing", 0);
 
         begin(26);
         due(INDEX, "fills", 0, -1, 0);
-        x.send(900, 0, false);
+        go("send", 900, 0, false);
         due(RANGE, "fills", 0, -1, 1);
         due(RANGE, "fills", 0, 1001, 1);
         due(RANGE, "fills", 0, 0, 0);
         due(RANGE, "fills", 0, 0, 1001);
         due(false, "fills", 0, 0, 1000);
-        x.forge(0, 8, 8, 0, true);
+        go("forge", 0, 8, 8, 0, true);
         due(false, "fills", 0, 0, 1000);
-        x.forge(0, 16, 8, 0, false);
+        go("forge", 0, 16, 8, 0, false);
         due(true, "fills", 0, 0, 8);
         due(true, "fills", 0, 0, 24);
         due(false, "fills", 0, 0, 7);
         due(false, "fills", 0, 1, 8);
         due(false, "fills", 0, 1000, 1000);
-        x.undo();
-        x.forge(0, 24, 8, 0, false);
+        go("undo");
+        go("forge", 0, 24, 8, 0, false);
         due(false, "fills", 0, 0, 8);
         due(true, "fills", 0, 0, 24);
         due(true, "fills", 0, 0, 1000);
@@ -610,53 +519,53 @@ public final class PromiseTest {
         // of datagram 0 three pieces on the link 1, then that of datagram 1 which is lost
         due(8, "handedIn", 0);
         due(-1, "handedIn", 1);
-        x.pass(7);
+        go("pass", 7);
         due(1, "handedIn", 0);
-        x.pass(1);
+        go("pass", 1);
         due(0, "handedIn", 0);
         due(8, "size", 2);
 
         begin(28);
         due(INDEX, "endIn", -1);
         read("link 100 5 0;send 30 0;send 30 9;life 200");
-        x.forge(1, 0, 8, 1, true);
-        x.pass(2);
-        x.forge(0, 0, 8, 1, true);
-        x.setPolicy(2);
+        go("forge", 1, 0, 8, 1, true);
+        go("pass", 2);
+        go("forge", 0, 0, 8, 1, true);
+        go("setPolicy", 2);
         due(3, "endIn", 0);
         due(3, "endIn", 1);
         due(-1, "handedIn", 0);
-        x.pass(3);
+        go("pass", 3);
         due(0, "endIn", 0);
-        x.send(30, 0, false);
-        x.setEvery(0, 1);
-        x.send(30, 0, false);
+        go("send", 30, 0, false);
+        go("setEvery", 0, 1);
+        go("send", 30, 0, false);
         due(5, "endIn", 2);
         due(-1, "endIn", 3);
-        x.forge(3, 0, 8, 1, true);
+        go("forge", 3, 0, 8, 1, true);
         due(200, "endIn", 3);
 
         begin(29);
         due(0, "quietIn");
         read("link 100 5 0;link 60 3 0;send 30 0");
         due(8, "quietIn");
-        x.probe(60);
+        go("probe", 60);
         due(16, "quietIn");
-        x.undo();
-        x.probe(61);
+        go("undo");
+        go("probe", 61);
         due(10, "quietIn");
-        x.forge(0, 0, 8, 1, true);
+        go("forge", 0, 0, 8, 1, true);
         due(10, "quietIn");
-        x.setEvery(0, 1);
-        x.send(1, 1, false);
-        x.forge(1, 8, 8, 1, true);
+        go("setEvery", 0, 1);
+        go("send", 1, 1, false);
+        go("forge", 1, 8, 8, 1, true);
         due(60, "quietIn");
-        x.setEvery(0, 0);
+        go("setEvery", 0, 0);
         for (int i = 0; i < 19; i++) {
-            x.pass(500);
+            go("pass", 500);
         }
-        x.pass(499);
-        x.probe(60);
+        go("pass", 499);
+        go("probe", 60);
         due(16, "quietIn");
         due(-3, "pass", 1);
 
@@ -677,47 +586,35 @@ public final class PromiseTest {
         due(RANGE, "handedBy", 1, 3);
         due(0, "handedBy", 1, 0);
         read("link 100 5 0;send 30 0;send 30 0");
-        x.forge(0, 0, 8, 1, true);
+        go("forge", 0, 0, 8, 1, true);
         due(2, "handedBy", 6, 1);
         due(2, "handedBy", 200, 0);
         due(2, "handedBy", 5, 1);
         due(1, "handedBy", 4, 1);
         due(1, "handedBy", 200, 2);
-        x.pass(5);
+        go("pass", 5);
         due(2, "handedBy", 1, 1);
         row("size", 1, 2, 5, 60, 0);
 
         begin(32);
-        share(0.0f);
-        x.send(8, 0, false);
-        share(0.0f);
-        x.forge(0, 0, 8, 1, false);
-        share(0.0f);
-        x.send(8, 0, false);
-        x.send(8, 0, false);
-        x.pass(1);
-        share(2.0f / 3.0f);
+        due(0.0f, "trueShare");
+        go("send", 8, 0, false);
+        due(0.0f, "trueShare");
+        go("forge", 0, 0, 8, 1, false);
+        due(0.0f, "trueShare");
+        go("send", 8, 0, false);
+        go("send", 8, 0, false);
+        go("pass", 1);
+        due(2.0f / 3.0f, "trueShare");
 
         begin(33);
-        tries(0.0);
-        x.send(8, 0, false);
-        x.again(0);
-        tries(2.0);
-        x.send(8, 0, false);
-        x.send(8, 0, false);
-        tries(4.0 / 3.0);
-    }
-
-    private static void share(float want) {
-        if (x.trueShare() != want) {
-            fail("trueShare", x.trueShare(), want);
-        }
-    }
-
-    private static void tries(double want) {
-        if (x.meanTries() != want) {
-            fail("meanTries", x.meanTries(), want);
-        }
+        due(0.0, "meanTries");
+        go("send", 8, 0, false);
+        go("again", 0);
+        due(2.0, "meanTries");
+        go("send", 8, 0, false);
+        go("send", 8, 0, false);
+        due(4.0 / 3.0, "meanTries");
     }
 
     // ---- promises 34 to 43 ----
@@ -741,11 +638,11 @@ public final class PromiseTest {
 
         begin(35);
         due(INDEX, "again", 0);
-        x.send(1, 0, false);
+        go("send", 1, 0, false);
         for (int i = 2; i < 7; i++) {
             due(i, "again", 0);
         }
-        x.pass(1);
+        go("pass", 1);
         due(1, "datagram", 0, 5);
         due(5, "account", 6);
         due(-2, "again", 0);
@@ -762,7 +659,7 @@ public final class PromiseTest {
 
         begin(37);
         due(INDEX, "forge", 0, -1, 0, -1, true);
-        x.send(900, 0, false);
+        go("send", 900, 0, false);
         due(RANGE, "forge", 0, -8, 1, 0, true);
         due(RANGE, "forge", 0, 1000, 1, 0, true);
         due(RANGE, "forge", 0, 4, 1, 0, true);
@@ -818,13 +715,13 @@ public final class PromiseTest {
         due(2, "size", 15);
 
         begin(42);
-        x.probe(100);
-        x.probe(600);
-        x.pass(2);
-        x.setSize(0, 80);
-        x.probe(90);
+        go("probe", 100);
+        go("probe", 600);
+        go("pass", 2);
+        go("setSize", 0, 80);
+        go("probe", 90);
         row("size", 1, 0, 2, 60, 0, 80, 100, 90);
-        x.setSize(0, 300);
+        go("setSize", 0, 300);
         due(300, "forget");
         row("size", 1, 0, 2, 60, 0, 300, 27, -1);
         due(6, "undo");
@@ -834,8 +731,8 @@ public final class PromiseTest {
         due(RANGE, "pass", 0);
         due(RANGE, "pass", 501);
         due(0, "size", 15);
-        x.send(1, 0, false);
-        x.send(1, 0, false);
+        go("send", 1, 0, false);
+        go("send", 1, 0, false);
         due(2, "pass", 1);
         due(0, "pass", 500);
         for (int i = 0; i < 18; i++) {
@@ -854,13 +751,13 @@ public final class PromiseTest {
     private static void output() {
         begin(44);
         due(INDEX, "writeHeap", 0);
-        x.send(900, 0, false);
+        go("send", 900, 0, false);
         written("x", "writeHeap", 0);
-        x.forge(0, 8, 1, 0, true);
+        go("forge", 0, 8, 1, 0, true);
         written("8-8/?", "writeHeap", 0);
-        x.forge(0, 992, 20, 0, false);
+        go("forge", 0, 992, 20, 0, false);
         written("8-8,992-1011/1012", "writeHeap", 0);
-        x.forge(0, 0, 9, 0, true);
+        go("forge", 0, 0, 9, 0, true);
         written("0-8,992-1011/1012", "writeHeap", 0);
         due(INDEX, "writeHeap", 1);
         due((int) '0', "outputByte", 0);
@@ -869,13 +766,13 @@ public final class PromiseTest {
         written("576*0", "writePath");
         read("link 28 1 0;link 1500 1 0;send 80 0");
         written("28*10>1500*0", "writePath");
-        x.pass(1);
+        go("pass", 1);
         written("28*0>1500*10", "writePath");
 
         begin(46);
         due(-1, "outputByte", 0);
         due(-1, "outputByte", -1);
-        x.writePath();
+        go("writePath");
         due((int) '*', "outputByte", 3);
         due(-1, "outputByte", 5);
         due(-1, "outputByte", Integer.MAX_VALUE);
@@ -888,9 +785,9 @@ public final class PromiseTest {
         begin(47);
         due(-1, "undo");
         for (int i = 1; i <= 10; i++) {
-            x.pass(1);
+            go("pass", 1);
         }
-        x.writePath();
+        go("writePath");
         type("link 28");
         due(8, "size", 15);
         for (int i = 7; i >= 0; i--) {
@@ -901,21 +798,21 @@ public final class PromiseTest {
         due((int) '5', "outputByte", 0);
         due(7, "truncate", 7);
         due(RANGE, "readText");
-        x.pass(1);
+        go("pass", 1);
         due(0, "undo");
         due(1, "errorCode");
         due(7, "errorPosition");
-        x.send(300, 0, false);
-        x.forge(0, 8, 8, 1, true);
-        x.setSize(0, 100);
-        x.setEvery(0, 2);
-        x.again(0);
-        x.probe(101);
-        x.setLife(3);
-        x.setPolicy(2);
-        x.pass(5);
+        go("send", 300, 0, false);
+        go("forge", 0, 8, 8, 1, true);
+        go("setSize", 0, 100);
+        go("setEvery", 0, 2);
+        go("again", 0);
+        go("probe", 101);
+        go("setLife", 3);
+        go("setPolicy", 2);
+        go("pass", 5);
         for (int i = 0; i < 7; i++) {
-            x.undo();
+            go("undo");
         }
         // what is there behind the forged piece
         row("size", 1, 1, 2, 60, 0, 576, 27, -1, 1, 0, 0, 1, 1, 0, 0, 1);
@@ -926,27 +823,27 @@ public final class PromiseTest {
 
         begin(48);
         due(0, "save");
-        x.pass(9);
+        go("pass", 9);
         due(9, "save");
         due(1, "size", 15);
-        x.pass(1);
+        go("pass", 1);
         due(9, "restore");
 
         begin(49);
         due(STATE, "restore");
-        x.send(30, 1, false);
-        x.forge(0, 8, 8, 1, true);
-        x.save();
-        x.pass(1);
-        x.setSize(0, 28);
-        x.writePath();
+        go("send", 30, 1, false);
+        go("forge", 0, 8, 8, 1, true);
+        go("save");
+        go("pass", 1);
+        go("setSize", 0, 28);
+        go("writePath");
         type("pass 1");
         due(0, "restore");
         row("size", 1, 1, 0, 60, 0, 576, 27, -1, 1, 0, 0, 1, 1, 0, 0, 0);
         due(-1, "undo");
         due(6, "truncate", 6);
         due((int) '2', "outputByte", 0);
-        x.pass(1);
+        go("pass", 1);
         due(0, "size", 11);
         due(0, "restore");
         due(1, "size", 11);
@@ -972,13 +869,13 @@ public final class PromiseTest {
         due(300, "probe", 28);
         row("account", 376, 0, 76);
         // a packet that is lost is not crowded out
-        x.setEvery(0, 1);
+        go("setEvery", 0, 1);
         due(300, "probe", 28);
         row("account", 377, 1, 76);
         due(0, "gap");
         // pieces that are cut again: 130 by 100 is 80 and 50; 80 by 50 is 24, 24, 24, 8; 50 is 24, 26
         read("link 100 1 0;link 50 1 0;send 130 0");
-        x.pass(1);
+        go("pass", 1);
         due(6, "size", 8);
         rowOf("packet", 3, 1, 2, 0, 72, 28, 1, 0);
         rowOf("packet", 4, 1, 2, 0, 80, 44, 1, 0);
@@ -987,12 +884,12 @@ public final class PromiseTest {
         due(1, "link", 0, 6);
         // a note tells SIZE as it was when it began
         read("link 100 4 0;link 50 1 0;send 80 0 firm");
-        x.pass(4);
-        x.setSize(1, 40);
+        go("pass", 4);
+        go("setSize", 1, 40);
         due(1, "size", 9);
-        x.pass(3);
+        go("pass", 3);
         due(100, "size", 5);
-        x.pass(1);
+        go("pass", 1);
         due(50, "size", 5);
     }
 
@@ -1000,14 +897,14 @@ public final class PromiseTest {
         begin(2);
         // by PATH 100 firm pieces have 80 bytes though the link could carry more
         read("link 100 1 0;send 200 0 firm");
-        x.setSize(0, 400);
-        x.send(200, 0, true);
+        go("setSize", 0, 400);
+        go("send", 200, 0, true);
         rowOf("packet", 3, 0, 1, 1, 0, 100, 1, 1);
         rowOf("packet", 5, 0, 1, 1, 160, 60, 0, 1);
         due(0, "account", 3);
         // a note of the node 0 comes at once; the datagram is sent again ahead of its other pieces
-        x.setSize(0, 60);
-        x.send(200, 0, true);
+        go("setSize", 0, 60);
+        go("send", 200, 0, true);
         due(60, "size", 5);
         due(2, "datagram", 2, 3);
         due(6, "datagram", 2, 8);
@@ -1017,26 +914,26 @@ public final class PromiseTest {
         // the third try is the last one that the sender makes by itself
         read("link 1500 1 0;link 300 1 0;link 200 1 0;link 100 1 0;send 1000 1 firm");
         due(1500, "size", 5);
-        x.pass(2);
+        go("pass", 2);
         due(300, "size", 5);
         due(2, "datagram", 0, 3);
-        x.pass(4);
+        go("pass", 4);
         due(200, "size", 5);
         due(3, "datagram", 0, 3);
-        x.pass(100);
+        go("pass", 100);
         due(100, "size", 5);
         due(3, "datagram", 0, 3);
         due(0, "datagram", 0, 5);
         due(4, "again", 0);
-        x.pass(4);
+        go("pass", 4);
         due(1, "datagram", 0, 5);
         due(110, "datagram", 0, 6);
         // a note that tells no less size changes nothing; the least probe that did not go is HIGH
-        x.probe(1000);
-        x.probe(600);
-        x.probe(700);
-        x.probe(90);
-        x.pass(8);
+        go("probe", 1000);
+        go("probe", 600);
+        go("probe", 700);
+        go("probe", 90);
+        go("pass", 8);
         row("size", 4, 1, 118, 60, 0, 100, 90, 600);
     }
 
@@ -1045,28 +942,21 @@ public final class PromiseTest {
         begin(29);
         String far = "link 1500 50 0;".repeat(5);
         read(far + "link 100 50 0");
-        x.probe(90);
+        go("probe", 90);
         due(600, "quietIn");
         read(far + "link 100 50 0;send 1000 1 firm");
         // dropped at 250, the note comes at 500, the datagram is handed over at 800
         due(-1, "quietIn");
-        promise = 30;
         due(1500, "pathIn", 499);
         due(100, "pathIn", 500);
-        x.pass(199);
-        promise = 27;
+        go("pass", 199);
         due(-1, "handedIn", 0);
-        promise = 28;
         due(-1, "endIn", 0);
-        promise = 31;
         due(0, "handedBy", 60, 0);
-        x.pass(1);
+        go("pass", 1);
         due(1, "handedBy", 60, 0);
-        promise = 27;
         due(600, "handedIn", 0);
-        promise = 28;
         due(600, "endIn", 0);
-        promise = 29;
         due(600, "quietIn");
         due(200, "size", 2);
     }
@@ -1079,17 +969,17 @@ public final class PromiseTest {
             run(3, "probe 60;probe 999;pass 1;");
         }
         row("size", 2, 0, 50, 60, 0, 1000, 27, -1, 99, 1, 0);
-        x.pass(49);
+        go("pass", 49);
         row("size", 2, 0, 99, 60, 0, 1000, 27, -1, 50, 50, 0);
-        x.pass(1);
+        go("pass", 1);
         row("size", 2, 0, 100, 60, 0, 60, 27, 999, 49, 49, 1);
-        x.save();
-        x.pass(49);
+        go("save");
+        go("pass", 49);
         row("size", 2, 0, 149, 60, 0, 60, 27, 999, 0, 0, 50);
         due(100, "quietIn");
-        x.pass(50);
+        go("pass", 50);
         due(27, "size", 6);
-        x.pass(1);
+        go("pass", 1);
         due(60, "size", 6);
         due(49, "quietIn");
         row("account", 150, 0, 0, 0, 50, 0, 0, 0, 50, 1);
@@ -1102,13 +992,13 @@ public final class PromiseTest {
         begin(3);
         // END known as another number
         read("link 1500 50 0;send 100 0;send 100 0;send 100 0;send 100 0;send 100 0");
-        x.forge(0, 0, 8, 1, false);
+        go("forge", 0, 0, 8, 1, false);
         due(2, "datagram", 0, 5);
-        x.forge(1, 40, 8, 1, false);
+        go("forge", 1, 40, 8, 1, false);
         due(0, "forge", 1, 48, 8, 1, false);
         rowOf("datagram", 1, 100, 0, 0, 1, 0, 3, 0, 3, 1);
         // a piece with MORE that ends at END is fine, one that ends behind it is not
-        x.forge(2, 40, 8, 1, false);
+        go("forge", 2, 40, 8, 1, false);
         due(16, "forge", 2, 32, 8 + 8, 2, true);
         due(8, "account", 7);
         due(1, "heapByte", 2, 40);
@@ -1116,16 +1006,16 @@ public final class PromiseTest {
         due(0, "forge", 2, 48, 1, 2, true);
         due(3, "datagram", 2, 7);
         // a byte at last is known
-        x.forge(3, 8, 8, 1, true);
+        go("forge", 3, 8, 8, 1, true);
         due(0, "forge", 3, 0, 8, 2, false);
         due(3, "datagram", 3, 7);
         // the policies
-        x.forge(4, 8, 8, 1, true);
-        x.setPolicy(1);
-        x.forge(4, 8, 4, 2, true);
+        go("forge", 4, 8, 8, 1, true);
+        go("setPolicy", 1);
+        go("forge", 4, 8, 4, 2, true);
         due(2, "heapByte", 4, 11);
         due(1, "heapByte", 4, 12);
-        x.setPolicy(2);
+        go("setPolicy", 2);
         due(8, "forge", 4, 8, 4, 2, true);
         due(0, "forge", 4, 8, 5, 2, true);
         rowOf("datagram", 4, 100, 0, 0, 1, 0, 3, 0, 4);
@@ -1136,27 +1026,27 @@ public final class PromiseTest {
 
     private static void heapsGoing() {
         read("link 1500 50 0;life 10;send 9 0;send 9 0;send 9 0;send 9 0;send 9 0;send 9 0");
-        x.forge(3, 0, 8, 1, true);
-        x.forge(2, 0, 8, 1, true);
-        x.pass(1);
-        x.forge(0, 0, 8, 1, true);
-        x.forge(1, 0, 8, 1, true);
+        go("forge", 3, 0, 8, 1, true);
+        go("forge", 2, 0, 8, 1, true);
+        go("pass", 1);
+        go("forge", 0, 0, 8, 1, true);
+        go("forge", 1, 0, 8, 1, true);
         due(4, "size", 11);
-        x.forge(5, 0, 8, 1, true);
+        go("forge", 5, 0, 8, 1, true);
         rowOf("datagram", 2, 9, 0, 0, 1, 0, 3, 1, 2);
-        x.forge(4, 0, 8, 1, true);
+        go("forge", 4, 0, 8, 1, true);
         rowOf("datagram", 3, 9, 0, 0, 1, 0, 3, 1, 2);
         due(4, "size", 11);
-        x.pass(9);
+        go("pass", 9);
         due(4, "size", 11);
-        x.pass(1);
+        go("pass", 1);
         due(0, "size", 11);
         rowOf("datagram", 0, 9, 0, 0, 1, 0, 3, 11, 1);
         // false: END is another number than LONG, though all bytes are its own
         read("link 1500 50 0;send 9 5;send 1 5");
-        x.forge(0, 0, 1, 5, false);
+        go("forge", 0, 0, 1, 5, false);
         due(2, "datagram", 0, 5);
-        x.forge(1, 0, 1, 5, false);
+        go("forge", 1, 0, 1, 5, false);
         due(1, "datagram", 1, 5);
     }
 }
