@@ -1,3 +1,6 @@
+import java.util.ArrayList;
+import java.util.List;
+
 /** Where the errors of texts are, and which of several errors, exceptions and refusals comes first. */
 public final class ErrorsTest extends Bench {
     private static final String ONE = "link 28 1 0;";
@@ -10,6 +13,7 @@ public final class ErrorsTest extends Bench {
         noError();
         spaces();
         runsOfSigns();
+        letters();
         firstStatement();
         places();
         endings();
@@ -162,6 +166,45 @@ public final class ErrorsTest extends Bench {
         badText(1, 5, "link {28 1 0");
         badText(1, 5, "link /28 1 0");
         badText(1, 5, "link :28 1 0");
+    }
+
+    /** A word with another letter, with one less or one more is another word. */
+    private static void letters() {
+        begin("words are those of the document");
+        String[] texts = {"link 28 1 0", "life 1", "policy 1", "send 1 1", "send 1 1 firm"};
+        for (String statement : texts) {
+            String ahead = statement.startsWith("link") ? "" : ONE;
+            int from = statement.endsWith("firm") ? 9 : 0;
+            for (String wrong : spelled(statement, from)) {
+                badText(1, ahead.length() + from, ahead + wrong);
+            }
+        }
+        String[] orders = {"send 1 1", "send 1 1 firm", "again 0", "probe 28", "forge 0 0 1 1", "forge 0 0 1 1 more",
+            "size 0 28", "every 0 1", "pass 1"};
+        for (String statement : orders) {
+            fresh();
+            int from = statement.endsWith("more") ? 14 : statement.endsWith("firm") ? 9 : 0;
+            for (String wrong : spelled(statement, from)) {
+                badOrders(1, from, wrong + ";");
+            }
+        }
+    }
+
+    private static List<String> spelled(String statement, int from) {
+        List<String> all = new ArrayList<>();
+        int to = from;
+        while (to < statement.length() && statement.charAt(to) != ' ') {
+            String ahead = statement.substring(0, to);
+            String behind = statement.substring(to + 1);
+            all.add(ahead + (statement.charAt(to) == 'z' ? 'a' : 'z') + behind);
+            all.add(ahead + (char) (statement.charAt(to) + 1) + behind);
+            all.add(ahead + (char) (statement.charAt(to) - 32) + behind);
+            all.add(ahead + behind);
+            to++;
+        }
+        all.add(statement.substring(0, from) + "z" + statement.substring(from));
+        all.add(statement.substring(0, to) + "z" + statement.substring(to));
+        return all;
     }
 
     private static void firstStatement() {

@@ -15,12 +15,16 @@ public final class FullTest extends Bench {
         datagrams();
         noPacket();
         packets();
+        packetsOfANewObject();
+        packetsComingAndGoing();
         packetsOfAllLinks();
         packetsInTick();
         crowdedOrLost();
+        notes();
         heaps();
         heapsGoingFirst();
         heapsStaying();
+        heapsUsedAnew();
         orders();
         backs();
         backsBegunAnew();
@@ -316,6 +320,79 @@ public final class FullTest extends Bench {
         rowOf("packet", 299, 0, 50, 3, 0, 28, 1, 0);
     }
 
+    private static void packetsOfANewObject() {
+        begin("300 packets of a new object");
+        go("setSize", 0, 28);
+        for (int i = 0; i < 3; i++) {
+            go("send", 1000, i, false);
+        }
+        row("account", 375, 0, 75);
+        due(300, "size", 8);
+        rowOf("packet", 299, 0, 1, 2, 49 * 8, 28, 1, 0);
+        due(2, "pass", 1);
+        due(0, "gap");
+        due(0, "size", 8);
+    }
+
+    private static void packetsComingAndGoing() {
+        begin("packets are put on a link that has some, and come from it in their order");
+        read("link 500 3 0;link 500 4 0");
+        for (int i = 0; i < 12; i++) {
+            go("send", 9, i, false);
+            go("pass", 1);
+        }
+        due(6, "size", 8);
+        due(6, "size", 13);
+        written("500*2>500*4", "writePath");
+        // at 13 and 14 those of both links are at their next node, then two more of the link 1
+        int[] order = {10, 6, 11, 7, 8, 9};
+        for (int i = 0; i < order.length; i++) {
+            due(order[i], "packet", i, 2);
+        }
+        for (int i = 12; i < 18; i++) {
+            go("send", 9, i, false);
+            due(1, "pass", 1);
+            due(i + 1, "datagram", i - 6, 6);
+            due(6, "size", 8);
+        }
+        due(6, "pass", 7);
+        due(0, "gap");
+    }
+
+    /** Each sending of 300 pieces is dropped at a nearer node, so that all notes come at one TIME. */
+    private static void notes() {
+        begin("1500 notes and 300 answers are on their way at once");
+        read("link 36 1 0;link 36 1 0;link 36 2 0;link 36 4 0;link 36 8 0;link 36 16 0");
+        for (int i = 0; i < 10; i++) {
+            run(30, "probe 28;".repeat(30));
+        }
+        due(300, "size", 8);
+        due(0, "pass", 32);
+        due(300, "size", 10);
+        due(0, "send", 992, 0, true);
+        for (int node = 5; node >= 1; node--) {
+            go("setSize", node, 28);
+            for (int i = node == 5 ? 1 : 0; i < 5; i++) {
+                go("again", 0);
+            }
+            due(300, "size", 8);
+            due((5 - node) * 300, "size", 9);
+            go("pass", 1 << (node - 1));
+        }
+        row("size", 6, 1, 63, 60, 0, 36, 27, -1, 0, 1500, 300);
+        due(1, "quietIn");
+        due(28, "pathIn", 1);
+        due(0, "pass", 1);
+        row("size", 6, 1, 64, 60, 0, 28, 28, -1, 0, 0, 0);
+        due(1500, "account", 8);
+        due(300, "account", 9);
+        due(50, "account", 2);
+        due(25, "datagram", 0, 3);
+        go("undo");
+        row("size", 6, 1, 63, 60, 0, 36, 27, -1, 0, 1500, 300);
+        due(0, "account", 8);
+    }
+
     private static void packetsOfAllLinks() {
         begin("300 packets on all links together");
         read("link 28 3 0;link 28 50 0;send 1000 0;send 1000 1");
@@ -458,6 +535,35 @@ public final class FullTest extends Bench {
         due(1, "datagram", 4, 5);
         due(2, "datagram", 0, 7);
         due(3, "size", 11);
+    }
+
+    private static void heapsUsedAnew() {
+        begin("where a heap was, another one can be; none goes for it");
+        read(ONE_LINK + ";send 9 0".repeat(9));
+        for (int first = 0; first < 4; first++) {
+            fresh();
+            read(ONE_LINK + ";send 9 0".repeat(9));
+            for (int i = 0; i < 4; i++) {
+                go("forge", i, 8, 8, 1, true);
+            }
+            due(0, "forge", first, 0, 8, 0, false);
+            go("pass", 5);
+            due(8, "forge", 4, 8, 8, 1, true);
+            due(4, "size", 11);
+            due(5, "heap", 4, 0);
+            // the one that began last goes, and another one comes in its place
+            due(0, "forge", 4, 0, 8, 0, false);
+            due(3, "size", 11);
+            due(1, "forge", 5, 16, 1, 7, true);
+            due(4, "size", 11);
+            rowOf("heap", 5, 5, -1, 1, 2, 0, 1, 17);
+            due(-1, "heapByte", 5, 8);
+            due(2, "size", 14);
+            // of those of TIME 0 the lowest one goes now
+            due(1, "forge", 6, 0, 1, 7, true);
+            due(2, "datagram", first == 0 ? 1 : 0, 7);
+            due(3, "size", 14);
+        }
     }
 
     // ---- orders and changes ----

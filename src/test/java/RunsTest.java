@@ -2,7 +2,10 @@ import java.util.ArrayList;
 import java.util.List;
 import java.util.Random;
 
-/** Runs of calls, made from fixed seeds, on FragmentPath and on NaivePath: all answers must be alike. */
+/**
+ * Runs of calls, made from fixed seeds, on FragmentPath and on NaivePath: all answers must be alike.
+ * The runs have more than the 512 calls that the document promises; neither class has such a bound.
+ */
 public final class RunsTest {
     private static final int CALLS = 220;
 

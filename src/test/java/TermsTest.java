@@ -652,6 +652,20 @@ public final class TermsTest extends Bench {
         due(0, "forge", 4, 0, 8, 5, true);
         due(2, "datagram", 4, 5);
         due(0.2f, "trueShare");
+        begin("a datagram that is handed over has no gap");
+        read(ONE_LINK + ";send 9 5");
+        go("forge", 0, 8, 1, 5, false);
+        due(8, "missing", 0);
+        due(0, "hole", 0, 0, 0);
+        due(7, "forge", 0, 0, 6, 5, true);
+        due(6, "hole", 0, 0, 0);
+        due(0, "forge", 0, 0, 8, 5, true);
+        due(2, "datagram", 0, 5);
+        rowOf("heap", 0, -1, -1, -1, -1, -1, -1, -1);
+        due(-1, "missing", 0);
+        due(-1, "hole", 0, 0, 0);
+        due(false, "fills", 0, 0, 9);
+        written("x", "writeHeap", 0);
         begin("true if all bytes are its own");
         read("link 28 1 0;send 24 5;send 24 5;send 24 5");
         // one forged byte that comes first, and stays

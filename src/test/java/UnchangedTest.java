@@ -94,6 +94,32 @@ public final class UnchangedTest extends Bench {
         due(8, "size", 15);
     }
 
+    /** No account is 0, and as many packets are on their way as there can be. */
+    private static void busy() {
+        read("link 60 2 0;link 28 1 3;send 40 1;send 40 2 firm");
+        go("probe", 28);
+        go("probe", 28);
+        go("probe", 61);
+        go("pass", 4);
+        go("forge", 0, 8, 8, 1, true);
+        go("forge", 0, 16, 8, 1, true);
+        go("forge", 0, 16, 8, 1, true);
+        go("setEvery", 1, 0);
+        go("send", 1, 7, false);
+        go("pass", 2);
+        go("setSize", 0, 28);
+        go("save");
+        go("restore");
+        run(2, "probe 28;send 1000 3;");
+        run(2, "send 1000 4;send 1000 5;");
+        for (int what = 0; what < 12; what++) {
+            if (call("account", what).equals("0")) {
+                fail("account " + what, 0, "another number");
+            }
+        }
+        due(300, "size", 8);
+    }
+
     private static void late() {
         for (int i = 0; i < 19; i++) {
             go("pass", 500);
@@ -418,6 +444,13 @@ public final class UnchangedTest extends Bench {
             Scene back = with(ordered(place, orders), "undo");
             same("all behind undo of " + orders, seen(back, false, true), before);
         }
+        Bench.begin("accounts are taken back");
+        place = UnchangedTest::busy;
+        before = seen(place, true, true);
+        for (Object[] change : new Object[][] {{"send", 900, 7, false}, {"pass", 5}, {"probe", 29}, {"pass", 70}}) {
+            Scene back = with(done(place, change), "undo");
+            same("all behind undo of " + Arrays.toString(change), seen(back, true, true), before);
+        }
         Bench.begin("eight changes that are taken back leave all as it was");
         Scene told = () -> read(ROW);
         before = seen(told, true, true);
@@ -492,7 +525,8 @@ public final class UnchangedTest extends Bench {
         Bench.begin("a description begins anew, whatever was there");
         String text = "link 90 3 2;link 50 1 0;send 300 9;policy 2;send 100 8 firm";
         List<String> due = stateOf(() -> read(text));
-        for (Scene played : new Scene[] {UnchangedTest::midway, UnchangedTest::full, UnchangedTest::late}) {
+        for (Scene played : new Scene[] {UnchangedTest::midway, UnchangedTest::full, UnchangedTest::late,
+                UnchangedTest::busy}) {
             List<String> got = stateOf(() -> {
                 played.play();
                 call("truncate", 0);
@@ -500,6 +534,19 @@ public final class UnchangedTest extends Bench {
             });
             same("all behind a new text", got, due);
         }
+        Bench.begin("nothing is on its way but what the text sends");
+        busy();
+        due(6, "link", 1, 4);
+        go("pass", 2);
+        // six of them were on the link 1 ahead of that
+        due(294, "link", 1, 4);
+        read("link 28 1 0;link 60 1 0");
+        row("account", 0, 0, 0, 0, 0, 0, 0, 0, 0, 0, 0, 0);
+        row("size", 2, 0, 0, 60, 0, 28, 27, -1, 0, 0, 0, 0, 0, 0, 0, 0);
+        due(0, "pass", 20);
+        row("account", 0, 0, 0, 0, 0, 0, 0, 0, 0, 0, 0, 0);
+        due(0, "gap");
+        due(0, "quietIn");
         Bench.begin("a new object is as by its text");
         same("a new object", stateOf(UnchangedTest::nothing), stateOf(() -> read("link 576 1 0")));
     }
@@ -536,10 +583,34 @@ public final class UnchangedTest extends Bench {
         Scene twice = () -> {
             changed.play();
             go("pass", 300);
-            read("link 28 1 1;send 1000 1");
+            read("link 28 1 1;send 1000 1;send 1 1;send 1 1;send 1 1;send 1 1");
             due(9, "restore");
         };
         same("all behind restore, restored twice", seen(twice, true, true), due);
+        due = seen(() -> {
+            busy();
+            due(6, "save");
+            due(6, "restore");
+        }, true, true);
+        Scene other = () -> {
+            busy();
+            due(6, "save");
+            read("link 90 1 0;link 90 1 0;link 90 1 0;send 300 1;send 300 1");
+            go("pass", 1);
+            due(6, "restore");
+        };
+        same("all behind restore of what was busy", seen(other, true, true), due);
+        Bench.begin("a heap of one byte comes back");
+        read("link 1500 50 0;policy 1;send 900 0");
+        due(1, "forge", 0, 0, 1, 5, true);
+        go("save");
+        due(1, "forge", 0, 0, 1, 9, true);
+        due(9, "heapByte", 0, 0);
+        due(1, "undo");
+        due(5, "heapByte", 0, 0);
+        due(1, "forge", 0, 0, 1, 9, true);
+        due(0, "restore");
+        due(5, "heapByte", 0, 0);
     }
 
     private static void keptTexts() {
