@@ -1,3 +1,5 @@
+import java.util.Arrays;
+
 /** The edges that the sections 1 to 3 of the terms name: the path, the sender, the receiver. */
 public final class TermsTest extends Bench {
     private static final String ONE_LINK = "link 1500 50 0";
@@ -32,6 +34,8 @@ public final class TermsTest extends Bench {
         fillings();
         holes();
         widths();
+        burdens();
+        bestLongs();
         end("the edges of the terms hold");
     }
 
@@ -755,6 +759,64 @@ public final class TermsTest extends Bench {
         due(8, "hole", 0, 0, 1);
         due(-1, "hole", 0, 1, 0);
         written("8-8/9", "writeHeap", 0);
+    }
+
+    private static int number(String name, int... arguments) {
+        Object[] boxed = Arrays.stream(arguments).boxed().toArray();
+        return Integer.parseInt(call(name, boxed));
+    }
+
+    /** What pieces() and burden() tell is what is counted on the links as a datagram is sent. */
+    private static void burdens() {
+        String[] paths = {"link 576 1 0", "link 28 1 0;link 1500 1 0;link 29 1 0", "link 1020 2 0;link 100 1 0;link 61 3 0",
+            "link 60 1 0;link 100 1 0;link 35 1 0;link 36 1 0;link 43 1 0;link 44 1 0", "link 1019 1 0;link 500 1 0"};
+        for (String path : paths) {
+            for (int bytes : new int[] {1, 8, 9, 15, 16, 40, 41, 80, 81, 555, 556, 557, 992, 993, 999, 1000}) {
+                begin(bytes + " bytes on the path " + path);
+                read(path);
+                go("send", bytes, 0, false);
+                go("pass", 20);
+                int together = 0;
+                for (int k = 0; k < number("size", 0); k++) {
+                    due(number("link", k, 3), "pieces", bytes, k);
+                    together += number("link", k, 8);
+                }
+                due(together, "burden", bytes);
+                due(0, "account", 2);
+                due(1, "datagram", 0, 5);
+            }
+        }
+    }
+
+    private static void bestLongs() {
+        for (String path : new String[] {"link 28 1 0", "link 61 1 0;link 60 1 0", "link 100 1 0;link 37 1 0", "link 1500 1 0"}) {
+            for (int bytes : new int[] {1, 2, 8, 9, 17, 40, 41, 81, 100, 123, 200}) {
+                begin("the best LONG for " + bytes + " bytes on the path " + path);
+                read(path);
+                int best = 0;
+                int least = Integer.MAX_VALUE;
+                for (int each = 1; each <= bytes; each++) {
+                    int rest = bytes % each;
+                    int burden = bytes / each * number("burden", each) + (rest == 0 ? 0 : number("burden", rest));
+                    if (burden <= least) {
+                        least = burden;
+                        best = each;
+                    }
+                }
+                due(best, "bestLong", bytes);
+            }
+        }
+        begin("the greatest such LONG, of 1 to 1000, bytes at most");
+        read("link 1500 1 0");
+        due(1, "bestLong", 1);
+        due(2, "bestLong", 2);
+        due(999, "bestLong", 999);
+        due(1000, "bestLong", 1000);
+        due(1000, "bestLong", 1001);
+        due(1000, "bestLong", 1999);
+        due(1000, "bestLong", 3000);
+        due(RANGE, "bestLong", 0);
+        due(RANGE, "bestLong", 3001);
     }
 
     private static void widths() {
