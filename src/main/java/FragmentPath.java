@@ -695,7 +695,7 @@ public final class FragmentPath {
         if (backs == 0) {
             return NONE;
         }
-        State before = past[(oldest + backs - 1) % MOST_BACKS];
+        State before = past[placeOf(backs - 1)];
         if (before == null) {
             return NONE;
         }
@@ -721,12 +721,17 @@ public final class FragmentPath {
     /** Keeps what is there now, ahead of a change. */
     private void remember() {
         if (backs == MOST_BACKS) {
-            oldest = (oldest + 1) % MOST_BACKS;
+            oldest = placeOf(1);
             backs--;
         }
-        int place = (oldest + backs) % MOST_BACKS;
+        int place = placeOf(backs);
         past[place] = copyInto(past[place]);
         backs++;
+    }
+
+    /** Where a state that is kept stands, if the oldest one is counted as 0. */
+    private int placeOf(int index) {
+        return Math.floorMod(oldest + index, MOST_BACKS);
     }
 
     private State copyInto(State target) {
